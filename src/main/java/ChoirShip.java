@@ -84,7 +84,7 @@ public final class ChoirShip {
         now.hands.begin(hull.men);
         now.doneCount = 0;
         past.forget();
-        asker.forget();
+        asker.learn(hull);
         return hull.men;
     }
 
@@ -398,6 +398,7 @@ public final class ChoirShip {
         }
         now.copy(images[k]);
         past.forget();
+        asker.learn(now.ship);
         return now.hands.hour;
     }
 
@@ -493,6 +494,7 @@ public final class ChoirShip {
         int kind = END;
         int place = 0;
         int behind = 0;
+        int size = 0;
         int number = 0;
         int fault = 0;
 
@@ -535,26 +537,42 @@ public final class ChoirShip {
                 }
             }
             behind = at;
+            size = at - place;
         }
 
         int byteAt(int i) {
             return i >= 0 && i < length && i < bytes.length ? bytes[i] : NONE;
         }
 
-        int size() {
-            return behind - place;
-        }
-
         boolean isWord(String text) {
-            if (kind != LETTERS || size() != text.length()) {
+            if (kind != LETTERS || size != text.length()) {
                 return false;
             }
-            for (int i = 0; i < text.length(); i++) {
+            for (int i = 0; i < size; i++) {
                 if (byteAt(place + i) != text.charAt(i)) {
                     return false;
                 }
             }
             return true;
+        }
+
+        /** Which word of a list (a blank behind each) the letters are, from 0 on; NONE of them. */
+        int wordOf(String list) {
+            int word = 0;
+            int same = 0;
+            for (int i = 0; kind == LETTERS && i < list.length(); i++) {
+                char letter = list.charAt(i);
+                if (letter != ' ') {
+                    boolean goesOn = same >= 0 && same < size && byteAt(place + same) == letter;
+                    same = goesOn ? same + 1 : NONE;
+                } else if (same == size) {
+                    return word;
+                } else {
+                    word++;
+                    same = 0;
+                }
+            }
+            return NONE;
         }
 
         boolean isSign(int sign) {
@@ -580,6 +598,7 @@ public final class ChoirShip {
     /** What a text told of words, men, orders and meanings; without words there is no ship. */
     private static final class Ship {
         private static final int MOST_CLAUSES = 40;
+        private static final String CLAUSES = "ship man order means ";
 
         int words = 0;
         int men = 0;
@@ -683,7 +702,7 @@ public final class ChoirShip {
             return same;
         }
 
-        /** Whether a word behind another one can be parted by a meaning, its two being the first pair then. */
+        /** Whether a meaning can part a word behind another one, its two not meaning more with that. */
         boolean parts(int before, int w, int k) {
             boolean stands = k >= 0 && k < meanings && k < MOST_MEANS;
             return stands && third[k] == w && pair(before, one[k]) < 0;
@@ -724,25 +743,33 @@ public final class ChoirShip {
         }
 
         private boolean readClause(Tape tape, int clause) {
-            boolean full = clause >= MOST_CLAUSES;
-            if (tape.isWord("ship")) {
-                return full || clause > 0 ? tape.blame(tape.place, 4) : readWords(tape);
+            int kind = tape.wordOf(CLAUSES);
+            if (kind < 0) {
+                return tape.blame(tape.place, 0);
             }
-            full = full || clause == 0;
-            if (tape.isWord("man")) {
-                return full || men >= MOST_MEN ? tape.blame(tape.place, 4) : readMan(tape);
+            boolean astray = (kind == 0) != (clause == 0);
+            if (astray || clause >= MOST_CLAUSES || isFull(kind)) {
+                return tape.blame(tape.place, 4);
             }
-            if (tape.isWord("order")) {
-                return full || orders >= MOST_ORDERS ? tape.blame(tape.place, 4) : readOrder(tape);
+            tape.advance();
+            switch (kind) {
+                case 0: return readWords(tape);
+                case 1: return readMan(tape);
+                case 2: return readOrder(tape);
+                default: return readMeans(tape);
             }
-            if (tape.isWord("means")) {
-                return full || meanings >= MOST_MEANS ? tape.blame(tape.place, 4) : readMeans(tape);
+        }
+
+        private boolean isFull(int kind) {
+            switch (kind) {
+                case 1: return men >= MOST_MEN;
+                case 2: return orders >= MOST_ORDERS;
+                case 3: return meanings >= MOST_MEANS;
+                default: return false;
             }
-            return tape.blame(tape.place, 0);
         }
 
         private boolean readWords(Tape tape) {
-            tape.advance();
             int n = readNumber(tape, 1, MOST_WORDS);
             if (n < 0) {
                 return false;
@@ -752,7 +779,6 @@ public final class ChoirShip {
         }
 
         private boolean readMan(Tape tape) {
-            tape.advance();
             int w = readNumber(tape, 0, words - 1);
             int b = w < 0 ? NONE : readNumber(tape, 0, LAST_WIND);
             if (b < 0 || men >= MOST_MEN) {
@@ -765,7 +791,6 @@ public final class ChoirShip {
         }
 
         private boolean readOrder(Tape tape) {
-            tape.advance();
             int n = readNumber(tape, 0, LAST_NEED);
             if (n < 0 || orders >= MOST_ORDERS) {
                 return false;
@@ -773,7 +798,7 @@ public final class ChoirShip {
             if (tape.kind != Tape.NUMBER) {
                 return tape.blame(tape.place, 0);
             }
-            int size = tape.size();
+            int size = tape.size;
             if (size > LONGEST_ORDER) {
                 return tape.blame(tape.place, 1);
             }
@@ -792,7 +817,6 @@ public final class ChoirShip {
         }
 
         private boolean readMeans(Tape tape) {
-            tape.advance();
             int a = readNumber(tape, 0, words - 1);
             if (a < 0) {
                 return false;
@@ -824,7 +848,7 @@ public final class ChoirShip {
                 return NONE;
             }
             int n = tape.number;
-            if (tape.size() > 5 || n < least || n > most) {
+            if (tape.size > 5 || n < least || n > most) {
                 tape.blame(tape.place, 1);
                 return NONE;
             }
@@ -839,6 +863,8 @@ public final class ChoirShip {
         private static final int DEEPEST = 10;
         private static final int MOST_PARTS = 60;
 
+        /** In the order of their steps, from that of man down to that of crew. */
+        private static final String LETTERS = "man word berth hour wind awake sick tired same need crew ";
         private static final int MAN = -1;
         private static final int WORD = -2;
         private static final int BERTH = -3;
@@ -858,7 +884,6 @@ public final class ChoirShip {
         private static final int TRIED = -16;
         /** Steps by a sign are this less the sign's number. */
         private static final int BY_SIGN = -100;
-        private static final int UNKNOWN = -99;
 
         private final int[] steps = new int[TAPE_BYTES + MOST_CLAUSES];
         private int size = 0;
@@ -878,9 +903,17 @@ public final class ChoirShip {
                     return tape.blame(tape.place, 4);
                 }
                 tape.advance();
-                if (!readSum(tape) || !readCondition(tape)) {
+                if (!readSum(tape)) {
                     return false;
                 }
+                boolean tests = tape.isWord("if");
+                if (tests) {
+                    tape.advance();
+                    if (!readTest(tape, 0)) {
+                        return false;
+                    }
+                }
+                step(tests ? TRIED : SURE);
                 if (tape.kind == Tape.END) {
                     return true;
                 }
@@ -890,17 +923,6 @@ public final class ChoirShip {
                 tape.advance();
             }
             return false;
-        }
-
-        private boolean readCondition(Tape tape) {
-            if (!tape.isWord("if")) {
-                step(SURE);
-                return true;
-            }
-            tape.advance();
-            boolean good = readTest(tape, 0);
-            step(TRIED);
-            return good;
         }
 
         /** An or waits till the facts joined by and behind it are read. */
@@ -930,29 +952,20 @@ public final class ChoirShip {
 
         private boolean readFact(Tape tape, int depth) {
             boolean turned = tape.isWord("not");
-            if (!turned && !tape.isSign('[')) {
-                return readComparison(tape);
-            }
-            if (depth >= DEEPEST) {
+            boolean opens = tape.isSign('[');
+            if ((turned || opens) && depth >= DEEPEST) {
                 return tape.blame(tape.place, 2);
             }
-            tape.advance();
             if (turned) {
+                tape.advance();
                 boolean good = readFact(tape, depth + 1);
                 step(NOT);
                 return good;
             }
-            if (!readTest(tape, depth + 1)) {
-                return false;
+            if (opens) {
+                tape.advance();
+                return readTest(tape, depth + 1) && readClosing(tape);
             }
-            if (!tape.isSign(']')) {
-                return tape.blame(tape.place, 0);
-            }
-            tape.advance();
-            return true;
-        }
-
-        private boolean readComparison(Tape tape) {
             if (!readSum(tape)) {
                 return false;
             }
@@ -968,6 +981,14 @@ public final class ChoirShip {
             boolean good = readSum(tape);
             step(BY_SIGN - sign);
             return good;
+        }
+
+        private static boolean readClosing(Tape tape) {
+            if (!tape.isSign(']')) {
+                return tape.blame(tape.place, 0);
+            }
+            tape.advance();
+            return true;
         }
 
         /** A + or - waits till the values joined by * / % behind it are read. */
@@ -997,54 +1018,21 @@ public final class ChoirShip {
         }
 
         private boolean readValue(Tape tape) {
-            int value = tape.kind == Tape.NUMBER ? tape.number : lettersOf(tape);
-            if (value == UNKNOWN) {
+            boolean digits = tape.kind == Tape.NUMBER;
+            int letters = tape.wordOf(LETTERS);
+            if (!digits && letters < 0) {
                 return tape.blame(tape.place, 0);
             }
-            if (tape.kind == Tape.NUMBER && tape.size() > 5) {
+            if (digits && tape.size > 5) {
                 return tape.blame(tape.place, 1);
             }
             if (parts >= MOST_PARTS) {
                 return tape.blame(tape.place, 3);
             }
             parts++;
-            step(value);
+            step(digits ? tape.number : MAN - letters);
             tape.advance();
             return true;
-        }
-
-        private static int lettersOf(Tape tape) {
-            if (tape.isWord("man")) {
-                return MAN;
-            }
-            if (tape.isWord("word")) {
-                return WORD;
-            }
-            if (tape.isWord("berth")) {
-                return BERTH;
-            }
-            if (tape.isWord("hour")) {
-                return HOUR;
-            }
-            if (tape.isWord("wind")) {
-                return WIND;
-            }
-            if (tape.isWord("awake")) {
-                return AWAKE;
-            }
-            if (tape.isWord("sick")) {
-                return SICK;
-            }
-            if (tape.isWord("tired")) {
-                return TIRED;
-            }
-            if (tape.isWord("same")) {
-                return SAME;
-            }
-            if (tape.isWord("need")) {
-                return NEED;
-            }
-            return tape.isWord("crew") ? CREW : UNKNOWN;
         }
 
         private static boolean compares(int sign) {
@@ -1391,7 +1379,7 @@ public final class ChoirShip {
         }
     }
 
-    /** By which words, and so by which men, which orders of a ship can be said; kept till asked of another. */
+    /** By which words, and so by which men, which orders of the ship in use can be said. */
     private static final class Choir {
         private static final int BAGS = 3003;
         /** At 5 * w + j the ways to choose j + 1 of w + j + 1: they number the bags of words. */
@@ -1417,28 +1405,9 @@ public final class ChoirShip {
         private int filled = 0;
         private final int[] bag = new int[MOST_WORDS];
 
-        void forget() {
-            ship = null;
-        }
-
-        /** Orders that can be said by a set of men, and the boy if his word is not NONE. */
-        int orders(Ship of, int boy, int men) {
-            if (boy < NONE || boy >= MOST_WORDS || men < 0 || men >= SETS_OF_MEN) {
-                return 0;
-            }
-            if (ship != of) {
-                gatherBags(of);
-                ship = of;
-                filled = 0;
-            }
-            if (bit(filled, boy + 1) == 0) {
-                fill(of, boy);
-                filled |= 1 << boy + 1;
-            }
-            return reach[(boy + 1) * SETS_OF_MEN + men];
-        }
-
-        private void gatherBags(Ship of) {
+        void learn(Ship of) {
+            ship = of;
+            filled = 0;
             Arrays.fill(exact, 0);
             for (int o = 0; o < of.orders; o++) {
                 rows.begin(of, o);
@@ -1452,27 +1421,40 @@ public final class ChoirShip {
             }
         }
 
+        /** Orders that can be said by a set of men, and by the boy if his word is not NONE. */
+        int orders(int boy, int heard) {
+            if (boy < NONE || boy >= MOST_WORDS) {
+                return 0;
+            }
+            if (bit(filled, boy + 1) == 0) {
+                fill(boy);
+                filled |= 1 << boy + 1;
+            }
+            return reach[(boy + 1) * SETS_OF_MEN + (heard & SETS_OF_MEN - 1)];
+        }
+
         /** What a set can say, it can say with one man more: so each set begins with those of one less. */
-        private void fill(Ship of, int boy) {
+        private void fill(int boy) {
             int base = (boy + 1) * SETS_OF_MEN;
-            int sets = Math.min(1 << of.men, SETS_OF_MEN);
+            int men = ship == null ? 0 : ship.men;
+            int sets = Math.min(1 << men, SETS_OF_MEN);
             for (int set = 0; set < sets; set++) {
                 int said = 0;
-                for (int m = 0; m < of.men; m++) {
+                for (int m = 0; m < men; m++) {
                     if (bit(set, m) == 1) {
                         said |= reach[base + set - (1 << m)];
                     }
                 }
-                reach[base + set] = said | ordersOfAll(of, boy, set);
+                reach[base + set] = said | ordersOfAll(boy, set);
             }
         }
 
         /** Orders said by all of a set together, with the boy or without him. */
-        private int ordersOfAll(Ship of, int boy, int set) {
+        private int ordersOfAll(int boy, int set) {
             Arrays.fill(bag, 0);
-            for (int m = 0; m < of.men; m++) {
+            for (int m = 0; ship != null && m < ship.men; m++) {
                 if (bit(set, m) == 1) {
-                    put(of.wordOf(m));
+                    put(ship.wordOf(m));
                 }
             }
             int n = Integer.bitCount(set);
@@ -1532,16 +1514,13 @@ public final class ChoirShip {
         private int x = 0;
         private final Hands sailing = new Hands();
 
-        void forget() {
-            choir.forget();
-        }
-
-        private static int menIn(int heard) {
-            return heard & SETS_OF_MEN - 1;
+        /** Must come whenever another ship is in use. */
+        void learn(Ship ship) {
+            choir.learn(ship);
         }
 
         int canSay(Ship ship, Hands hands) {
-            return choir.orders(ship, hands.boy, menIn(hands.heard(ship)));
+            return choir.orders(hands.boy, hands.heard(ship));
         }
 
         void findShortest(Ship ship, Hands hands, int order) {
@@ -1601,7 +1580,7 @@ public final class ChoirShip {
             for (int set = 0; set < SETS_OF_MEN; set++) {
                 boolean fewer = found < 0 || Integer.bitCount(set) < Integer.bitCount(found);
                 boolean can = fewer && (set & ~fit) == 0;
-                if (can && (orders & ~choir.orders(ship, hands.boy, set)) == 0) {
+                if (can && (orders & ~choir.orders(hands.boy, set)) == 0) {
                     found = set;
                 }
             }
@@ -1617,7 +1596,7 @@ public final class ChoirShip {
             int least = all & -all;
             for (int set = 0; set < SETS_OF_MEN; set++) {
                 if ((set & ~all) == 0 && (set & least) == least) {
-                    int both = choir.orders(ship, NONE, set) & choir.orders(ship, NONE, all & ~set);
+                    int both = choir.orders(NONE, set) & choir.orders(NONE, all & ~set);
                     if ((orders & ~both) == 0) {
                         return set;
                     }
@@ -1627,7 +1606,7 @@ public final class ChoirShip {
         }
 
         int needWith(Ship ship, Hands hands, int word) {
-            return needOf(ship, choir.orders(ship, word, menIn(hands.heard(ship))));
+            return needOf(ship, choir.orders(word, hands.heard(ship)));
         }
 
         private static int needOf(Ship ship, int orders) {
@@ -1740,7 +1719,7 @@ public final class ChoirShip {
             Arrays.fill(saidBy, 0);
             for (int set = 0; set < SETS_OF_MEN; set++) {
                 if ((set & ~all) == 0) {
-                    int orders = choir.orders(ship, NONE, set);
+                    int orders = choir.orders(NONE, set);
                     if (world.agrees(orders)) {
                         sets++;
                         inAll &= set;

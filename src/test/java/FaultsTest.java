@@ -53,6 +53,11 @@ final class FaultsTest {
         ship("ship 1;man 0;", 12, 0);
         ship("ship 1;man 0 0 0", 15, 0);
         ship("ship 1;mano 0 0", 7, 0);
+        ship("ship 1;manz 0 0", 7, 0);
+        ship("ship 1;man{0 0", 10, 0);
+        ship("ship 1;man`0 0", 10, 0);
+        ship("ship 1;man 0/0", 12, 0);
+        ship("ship 1;man 0:0", 12, 0);
         ship("ship 1;order", 12, 0);
         ship("ship 1;order x 0", 13, 0);
         ship("ship 1;means 0 0", 16, 0);

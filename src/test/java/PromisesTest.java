@@ -545,6 +545,9 @@ final class PromisesTest {
         String five = "ship 4" + ";man 0 0".repeat(5) + ";order 1 1;means 0 0 2;means 2 0 3;means 3 0 3";
         due("19: not by these", Kit.with(five).sayable(), 0);
         String deep = "ship 5" + ";man 0 0".repeat(5) + ";order 1 4;means 0 0 1;means 1 0 2;means 2 0 3;means 3 0 4";
+        // 1 2 4 6 become 0 4 6, and then 7 6; 1 2 3 would be 0 3 and then 5.
+        due("19: the first pair first", Kit.with("ship 8;man 1 0;man 2 0;man 4 0;man 6 0"
+            + ";order 1 5;means 1 2 0;means 0 3 5;means 4 6 3;means 0 4 7").sayable(), 0);
         due("19: by five", Kit.with(deep).sayable(), 1);
         ChoirShip y = Kit.with(deep);
         y.die(4);
@@ -710,6 +713,11 @@ final class PromisesTest {
         lack("24: more than 2", y, 1, -2);
         lack("24: another of his word", y, 2, 1, 3);
         lack("24: the lesser first", y, 3, 2, 0, 2);
+        // 5 1 3, 6 2 3 or 6 2 5 2: the first of the two words goes ahead.
+        lack("24: the first as a row", Kit.with("ship 7;man 5 0;man 6 0;order 1 43;means 5 1 4;means 6 2 4;means 5 2 3"),
+            0, 2, 1, 3);
+        // 1 5 4 or 3 5 1: of the same first one the second.
+        lack("24: the first as a row", Kit.with("ship 6;man 5 0;order 1 34;means 1 5 3;means 5 1 4"), 0, 2, 1, 3);
         due("24: never left", Kit.with("ship 1;man 0 0;order 1 00;means 0 0 0").lacks(0, 0), -2);
         due("24: told before", Kit.with("ship 1;man 0 0;order 1 0;order 1 0").lacks(1, 0), -2);
         // Five men are a row: of 0 1 2 3 all are heard, and to make 3 of five more would be six.
