@@ -632,7 +632,7 @@ public final class ChoirShip {
         }
 
         int wordOf(int m) {
-            return hasMan(m) ? word[m] : NONE;
+            return m >= 0 && m < men && m < MOST_MEN ? word[m] : NONE;
         }
 
         int rowWord(int o, int i) {
@@ -641,7 +641,8 @@ public final class ChoirShip {
         }
 
         int pair(int a, int b) {
-            return hasWord(a) && hasWord(b) ? together[a * MOST_WORDS + b] : NOTHING;
+            boolean known = a >= 0 && a < MOST_WORDS && b >= 0 && b < MOST_WORDS;
+            return known ? together[a * MOST_WORDS + b] : NOTHING;
         }
 
         /** Makes the meaning of the first n words of a row, in it: how many words are left. */
@@ -1772,7 +1773,8 @@ public final class ChoirShip {
                     sailing.rouse(m, draw() % 100 >= sleep);
                 }
             }
-            int mute = (1 << ship.orders) - 1 & ~canSay(ship, sailing);
+            int said = choir.orders(sailing.boy, sailing.heard(ship));
+            int mute = (1 << ship.orders) - 1 & ~said;
             unsaid += Integer.bitCount(mute);
             unsaidNeed += needOf(ship, mute);
             sailing.pass();

@@ -52,11 +52,11 @@ final class Texts {
         return cut(all.toString());
     }
 
-    /** A text above 400 bytes loses its last clauses. */
+    /** A text above 400 bytes loses its last clauses; one clause alone, what is too much. */
     private static String cut(String text) {
         String less = text;
         while (less.length() > 400) {
-            less = less.substring(0, less.lastIndexOf(';'));
+            less = less.substring(0, less.indexOf(';') < 0 ? 400 : less.lastIndexOf(';'));
         }
         return less;
     }
