@@ -262,7 +262,7 @@ public final class ChoirShip {
     }
 
     public int fewest(int orders, int what) {
-        if (orders < 0 || orders >= 1 << now.ship.orders || what < 0 || what > 1) {
+        if (!now.ship.hasOrders(orders) || what < 0 || what > 1) {
             return NONE;
         }
         int set = asker.fewestMen(now.ship, now.hands, orders);
@@ -629,6 +629,11 @@ public final class ChoirShip {
 
         boolean hasOrder(int o) {
             return o >= 0 && o < orders && o < MOST_ORDERS;
+        }
+
+        /** A set of orders as bits; without a ship there are no orders, so not the empty set either. */
+        boolean hasOrders(int set) {
+            return sails() && set >= 0 && set < 1 << orders;
         }
 
         int wordOf(int m) {

@@ -519,13 +519,13 @@ final class Model {
     }
 
     int fewest(int orders, int what) {
-        if (orders < 0 || orders >> now.orders() != 0 || what < 0 || what > 1) {
+        if (now.told == null || orders < 0 || orders >> now.orders() != 0 || what < 0 || what > 1) {
             return -1;
         }
         for (int n = 0; n <= 8; n++) {
             for (int set = 0; set < 256; set++) {
                 if (Integer.bitCount(set) == n && allFit(set)) {
-                    int by = now.told == null ? 0 : ordersBy(now.boy >= 0 ? set | 256 : set, now.boy);
+                    int by = ordersBy(now.boy >= 0 ? set | 256 : set, now.boy);
                     if ((by & orders) == orders) {
                         return what == 0 ? n : set;
                     }

@@ -73,6 +73,8 @@ final class PromisesTest {
         due("1: sayable", x.sayable(), -1);
         due("1: shortest", x.shortest(0, 0), -1);
         due("1: fewest", x.fewest(1, 0), -1);
+        due("1: fewest for no order", x.fewest(0, 0), -1);
+        due("1: fewest for no order", x.fewest(0, 1), -1);
         due("1: watches", x.watches(0, 0), -1);
         due("1: boy", x.boy(0), -1);
         due("1: lacks", x.lacks(0, 0), -1);
@@ -623,6 +625,14 @@ final class PromisesTest {
         due("21: below", x.fewest(-1, 0), -1);
         due("21: what above", x.fewest(1, 2), -1);
         due("21: what below", x.fewest(1, -1), -1);
+        due("21: a ship without orders", Kit.with("ship 1;man 0 0").fewest(0, 0), 0);
+        due("21: a ship without orders", Kit.with("ship 1;man 0 0").fewest(1, 0), -1);
+        ChoirShip z = new ChoirShip();
+        z.image(0);
+        Kit.ship(z, FOUR);
+        z.back(0);
+        due("21: without a ship again", z.fewest(0, 0), -1);
+        due("21: without a ship again", z.fewest(0, 1), -1);
         // By bits 0 and 3, or by bit 2 alone: fewest goes ahead of least.
         ChoirShip y = Kit.with("ship 3;man 0 0;man 1 0;man 2 0;order 1 2;means 0 1 2");
         due("21: fewest", y.fewest(1, 1), 4);
