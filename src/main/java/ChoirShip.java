@@ -1593,6 +1593,7 @@ public final class ChoirShip {
             return found;
         }
 
+        /** The least man must be in it, so that of no living men there is no first watch. */
         int firstWatch(Ship ship, Hands hands, int need) {
             int orders = 0;
             for (int o = 0; o < ship.orders && o < MOST_ORDERS; o++) {
@@ -1601,7 +1602,7 @@ public final class ChoirShip {
             int all = hands.living(ship);
             int least = all & -all;
             for (int set = 0; set < SETS_OF_MEN; set++) {
-                if ((set & ~all) == 0 && (set & least) == least) {
+                if ((set & ~all) == 0 && (set & least) != 0) {
                     int both = choir.orders(NONE, set) & choir.orders(NONE, all & ~set);
                     if ((orders & ~both) == 0) {
                         return set;

@@ -553,8 +553,8 @@ final class Model {
             orders |= now.told.orders.get(o)[0] >= need ? 1 << o : 0;
         }
         int all = living();
-        for (int set = 0; set <= all; set++) {
-            boolean parts = (set & all) == set && (set & Integer.lowestOneBit(all)) == Integer.lowestOneBit(all);
+        for (int set = 1; set <= all; set++) {
+            boolean parts = (set & all) == set && (set & Integer.lowestOneBit(all)) != 0;
             if (parts && (orders & ordersBy(set, -1) & ordersBy(all ^ set, -1)) == orders) {
                 return what == 0 ? set : all ^ set;
             }

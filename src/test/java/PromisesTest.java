@@ -669,6 +669,28 @@ final class PromisesTest {
         due("22: one man", Kit.with("ship 1;man 0 0;order 50 0").watches(0, 0), -2);
         due("22: one man, no order", Kit.with("ship 1;man 0 0").watches(0, 0), 1);
         due("22: one man, no order", Kit.with("ship 1;man 0 0").watches(0, 1), 0);
+        withoutMen("22: no men", Kit.with("ship 1"));
+        withoutMen("22: no men, an order", Kit.with("ship 1;order 50 0"));
+        ChoirShip z = Kit.with("ship 1;man 0 0;man 0 0;order 50 0");
+        z.die(0);
+        due("22: one is left, no order", z.watches(51, 0), 2);
+        due("22: one is left, no order", z.watches(51, 1), 0);
+        z.die(1);
+        z.teach(0);
+        withoutMen("22: all are dead, the boy has a word", z);
+        z.undo();
+        z.undo();
+        due("22: he lives again", z.watches(51, 0), 2);
+    }
+
+    /** No set has the least man not dead in it, for any need; what is no need is none still. */
+    private static void withoutMen(String name, ChoirShip x) {
+        for (int need = 0; need <= 99; need += 33) {
+            due(name + " " + need, x.watches(need, 0), -2);
+            due(name + " " + need, x.watches(need, 1), -2);
+        }
+        due(name + " above", x.watches(100, 0), -1);
+        due(name + " what above", x.watches(0, 2), -1);
     }
 
     private static void boy() {
