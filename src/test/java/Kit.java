@@ -63,6 +63,38 @@ final class Kit {
         return -2 - (1 + 8 * place + code);
     }
 
+    /** All that can be looked at without a change of it, as one text. */
+    static String state(ChoirShip x) {
+        StringBuilder all = new StringBuilder();
+        for (int what = 0; what <= 14; what++) {
+            all.append(x.count(what)).append(' ');
+        }
+        for (int m = 0; m < x.count(1); m++) {
+            for (int what = 0; what <= 6; what++) {
+                all.append(x.man(m, what)).append(' ');
+            }
+        }
+        for (int o = 0; o < x.count(2); o++) {
+            all.append(x.order(o, 0)).append(' ').append(x.order(o, 2)).append(' ');
+        }
+        return all.append(x.sayable()).append(' ').append(x.awake(0)).append(' ').append(x.awake(1)).toString();
+    }
+
+    /** A call that is due to be refused. */
+    interface Call {
+        int on(ChoirShip x);
+    }
+
+    /** Every one of the calls answers so, and nothing happens by them. */
+    static void refused(String name, ChoirShip x, int want, Call... calls) {
+        String before = state(x);
+        for (int i = 0; i < calls.length; i++) {
+            due(name + ", refusal " + i, calls[i].on(x), want);
+        }
+        String after = state(x);
+        due(name + ": it was " + before + " and is " + after, after.equals(before), true);
+    }
+
     static void finish(String name) {
         System.out.println(name + ": " + asked + " answers, " + wrong + " not as due");
         if (wrong != 0) {
