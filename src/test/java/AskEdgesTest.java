@@ -1019,15 +1019,15 @@ final class AskEdgesTest {
         x.image(0);
         x.done(-1, true);
         for (int i = 0; i < 10; i++) {
-            x.done(7, true);
+            x.done(0, true);
         }
-        sets("ten others", x, 128, 128, 0);
+        sets("ten others", x, 128, 1, 0);
         x.image(1);
         x.back(0);
         sets("the first ten", x, 1, 0x55, 0xaa);
         due("an 11th", x.done(0, true), -2);
         x.back(1);
-        sets("the others", x, 128, 128, 0);
+        sets("the others", x, 128, 1, 0);
     }
 
     private static void nothingCanBeUndoneThen() {

@@ -623,6 +623,10 @@ final class TextEdgesTest {
         due("bad", Kit.rule(x, "wake 1;wake 1;!"), Kit.fault(14, 0));
         due("good", Kit.rule(x, "wake 0"), 1);
         due("it alone counts", x.run(1, 1) * 10 + x.count(7), 20);
+        due("bad", Kit.rule(x, "wake 0 if 1=2;wake 1;!"), Kit.fault(21, 0));
+        due("good, and none of its clauses holds", Kit.rule(x, "wake 1 if 1=2"), 2);
+        x.wake(0, true);
+        due("it alone counts", x.run(2, 1) * 10 + x.count(7), 30);
     }
 
     private static void aBadShipChangesNothing() {
