@@ -1,3 +1,5 @@
+import java.util.Random;
+
 /** Part III of the terms, promises 19 to 33: a test of its own for each sentence that names an edge. */
 final class AskEdgesTest {
     /** Eight words, men and orders, one of each; NEEDS 1 to 8. */
@@ -31,6 +33,8 @@ final class AskEdgesTest {
         sayableIsABitForEach();
         rowsOfOneToFiveMen();
         allBagsOfWords();
+        wordsNextToTheirOwn();
+        fiveWordsNextToTheirOwn();
         anOrderThatIsNeverMeant();
         meaningsAtEachPlace();
         theFirstTwoGoAhead();
@@ -173,10 +177,9 @@ final class AskEdgesTest {
         due("not by three", Kit.with("ship 1" + ";man 0 0".repeat(3) + ";order 1 0000").sayable(), 0);
     }
 
-    /** Without meanings an order is sayable if the men have its words: for all rows of four, and crews. */
+    /** Without meanings an order is sayable if the men have its words: for all rows of four, and many crews. */
     private static void allBagsOfWords() {
-        int[][] crews = {{0, 1, 2, 3, 4, 5, 6, 7}, {2, 3, 4, 5, 6, 7, 8, 9}, {9, 9, 9, 9, 8, 8, 0, 0},
-            {0, 0, 1, 1, 5, 5, 9, 9}, {3, 3, 3, 4, 4, 6, 6, 6}, {0, 1, 4, 4, 7, 8, 8, 9}, {2, 2, 2, 2, 5, 7, 7, 7}};
+        Random random = new Random(4);
         int[] rows = new int[8];
         int n = 0;
         for (int row = 0; row < 10000; row++) {
@@ -187,20 +190,20 @@ final class AskEdgesTest {
                 rows[n % 8] = row;
                 n++;
                 if (n % 8 == 0 || row == 9999) {
-                    bags(crews, rows);
+                    bags(random.ints(320, 0, 10).toArray(), rows);
                 }
             }
         }
         due("rows of four", n, 715);
     }
 
-    private static void bags(int[][] crews, int[] rows) {
-        for (int[] crew : crews) {
+    private static void bags(int[] words, int[] rows) {
+        for (int from = 0; from < words.length; from += 8) {
             StringBuilder text = new StringBuilder("ship 10");
             int[] has = new int[10];
-            for (int word : crew) {
-                text.append(";man ").append(word).append(" 0");
-                has[word]++;
+            for (int m = from; m < from + 8; m++) {
+                text.append(";man ").append(words[m]).append(" 0");
+                has[words[m]]++;
             }
             int can = 0;
             for (int o = 0; o < 8; o++) {
@@ -220,6 +223,72 @@ final class AskEdgesTest {
             }
         }
         return true;
+    }
+
+    /** Any five men say the last of their words, and not these with the first of them one more. */
+    private static void wordsNextToTheirOwn() {
+        int crews = 0;
+        for (int number = 0; number < 100000; number++) {
+            String crew = String.format("%05d", number);
+            if (isSorted(crew)) {
+                crews++;
+                int[] has = new int[10];
+                StringBuilder text = new StringBuilder("ship 10");
+                for (char word : crew.toCharArray()) {
+                    text.append(";man ").append(word).append(" 0");
+                    has[word - '0']++;
+                }
+                due("sayable of " + crew, Kit.with(text + lastWords(crew)).sayable(), bitsOf(crew, has));
+            }
+        }
+        due("crews", crews, 2002);
+    }
+
+    private static boolean isSorted(String words) {
+        return words.chars().sorted().collect(StringBuilder::new, StringBuilder::appendCodePoint, StringBuilder::append)
+            .toString().equals(words);
+    }
+
+    private static String raised(String words) {
+        return (char) (words.charAt(0) == '9' ? '9' : words.charAt(0) + 1) + words.substring(1);
+    }
+
+    private static String lastWords(String crew) {
+        StringBuilder orders = new StringBuilder();
+        for (int from = 1; from <= 4; from++) {
+            orders.append(";order 0 ").append(crew.substring(from));
+            orders.append(";order 0 ").append(raised(crew.substring(from)));
+        }
+        return orders.toString();
+    }
+
+    /** Of each length its own words; those raised if they have them, and they are no row told before. */
+    private static int bitsOf(String crew, int[] has) {
+        int bits = 0;
+        for (int from = 1; from <= 4; from++) {
+            String own = crew.substring(from);
+            String more = raised(own);
+            int bit = 1 << 2 * (from - 1);
+            bits |= bit;
+            bits |= !more.equals(own) && within(more, has) ? 2 * bit : 0;
+        }
+        return bits;
+    }
+
+    private static void fiveWordsNextToTheirOwn() {
+        for (int w = 1; w <= 9; w++) {
+            // A word that is neither w nor one less is meant by these two.
+            int x = w == 1 ? 5 : w == 2 ? 6 : 0;
+            String told = "ship 10;order 1 " + x + w + w + w + ";means " + (w - 1) + " " + w + " " + x;
+            String four = (";man " + w + " 0").repeat(4);
+            due("with one less", Kit.with(told + four + ";man " + (w - 1) + " 0").sayable(), 1);
+            due("five alike", Kit.with(told + four + ";man " + w + " 0").sayable(), 0);
+            // Two of five alike mean x, and again two of them.
+            String alike = "ship 10;order 1 " + x + x + w + ";means " + w + " " + w + " " + x;
+            due("by five", Kit.with(alike + four + ";man " + w + " 0").sayable(), 1);
+            due("not by four", Kit.with(alike + four).sayable(), 0);
+            due("not by none", Kit.with(alike).sayable(), 0);
+        }
     }
 
     private static void anOrderThatIsNeverMeant() {
